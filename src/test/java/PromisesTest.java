@@ -106,6 +106,9 @@ public final class PromisesTest {
         due("load with a larger alphabet", 4, () -> x.load());
         append(x, "d|");
         dueThrow("load beyond the alphabet of 3", WRONG, () -> x.load());
+        x.clearBuffer();
+        append(x, "ad|a");
+        dueThrow("load beyond the alphabet at the second letter", WRONG, () -> x.load());
     }
 
     private static void promise3Insert() {
@@ -222,6 +225,9 @@ public final class PromisesTest {
         due("setAlphabet refused: nothing is saved", 4, () -> x.savedStates());
         BlockDistance first = with("ac", "b");
         dueThrow("setAlphabet below text 0", NOT_NOW, () -> first.setAlphabet(2));
+        first.replace(0, 0, 2);
+        first.replace(0, 1, 0);
+        dueThrow("setAlphabet below the first letter of text 0", NOT_NOW, () -> first.setAlphabet(2));
         due("setAlphabet that text 0 keeps to", 4, () -> first.setAlphabet(3));
         BlockDistance second = with("a", "bbd");
         dueThrow("setAlphabet below text 1", NOT_NOW, () -> second.setAlphabet(3));
@@ -292,6 +298,7 @@ public final class PromisesTest {
         due("steps of the same texts", 3, () -> with("abc", "abc").steps());
         due("steps of a deletion", 5, () -> with("abcab", "abcb").steps());
         due("steps that are more than the letters of a text", 5, () -> with("abcd", "bcda").steps());
+        due("steps of long shifted texts", 26, () -> with("ddddddabaacbbbccabac", "abaacbbbccabacdddddd").steps());
     }
 
     private static void promise13Step() {
@@ -379,6 +386,12 @@ public final class PromisesTest {
         due("setBlock again: table", "0 0 0", () -> table(x));
         x.measure();
         due("setBlock again: the keys are gone", "0 1 2", () -> table(x));
+        BlockDistance ones = with("aa", "aa");
+        ones.setBlock(1);
+        ones.measure();
+        ones.setBlock(1);
+        ones.measure();
+        due("setBlock 1 again: the keys are gone", "1 3 0", () -> table(ones));
         due("setBlock 1", 2, () -> x.setBlock(1));
         due("setBlock 1: table", "0 0 0", () -> table(x));
         due("setBlock 2", 1, () -> x.setBlock(2));
@@ -521,6 +534,10 @@ public final class PromisesTest {
         due("ifReplaced saves nothing", 1, () -> x.savedStates());
         due("ifReplaced against an empty text", 2, () -> with("ab", "").ifReplaced(0, 0, 1));
         due("ifReplaced of the longest texts", 19, () -> with(TWENTY_A, TWENTY_B).ifReplaced(1, 19, 0));
+        BlockDistance longs = with(TWENTY_A, TWENTY_B);
+        longs.ifReplaced(0, 0, 0);
+        longs.exchange();
+        due("ifReplaced of the longest texts, exchanged", 19, () -> longs.ifReplaced(1, 19, 1));
         dueThrow("ifReplaced at the end", OUTSIDE, () -> x.ifReplaced(0, 4, 0));
         dueThrow("ifReplaced at -1", OUTSIDE, () -> x.ifReplaced(0, -1, 0));
         dueThrow("ifReplaced in text 2", OUTSIDE, () -> x.ifReplaced(2, 0, 0));
@@ -722,6 +739,12 @@ public final class PromisesTest {
         append(x, "xyz");
         due("digest takes no look at the buffer", hashOf(values), () -> x.digest());
         due("digest saves nothing", 2, () -> x.savedStates());
+        x.exchange();
+        long[] exchanged = {3, 1, 0, 2, 0, 1, 1, 2, 1, 1, 2, 2, 0, 1, 0, 3, 0, 0, 0, 1, 2, 1, 0, 1};
+        due("digest of exchanged texts", hashOf(exchanged), () -> x.digest());
+        x.replace(1, 0, 1);
+        long[] other = {3, 1, 0, 2, 1, 1, 2, 2, 2, 0, 2, 2, 0, 2, 3, 1, 1, 0, 0, 1, 2, 1, 1, 2};
+        due("digest of other texts", hashOf(other), () -> x.digest());
     }
 
     public static void main(String[] args) {
