@@ -787,7 +787,7 @@ public final class BlockDistance {
             if ((met[word] & bit) != 0L) {
                 hitCount++;
             } else {
-                met[word] |= bit;
+                met[word] = met[word] | bit;
                 missCount++;
             }
         }
