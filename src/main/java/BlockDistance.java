@@ -26,6 +26,7 @@ public final class BlockDistance {
     private static final int FROM_THE_BEGINNING = 1;
     private static final int FROM_ANYWHERE = 0;
 
+    private static final int ABOVE_ANY_DISTANCE = MOST_LETTERS + 1;
     private static final int FACTOR_FOR_BEST = 10;
     private static final long HASH_START = 4194L;
     private static final long HASH_FACTOR = 31L;
@@ -242,7 +243,7 @@ public final class BlockDistance {
         Text other = textOf(1 - text);
         replacements.prepare(changed, other);
         int best = NONE;
-        int least = Integer.MAX_VALUE;
+        int least = ABOVE_ANY_DISTANCE;
         for (int index = 0; index < changed.size(); index++) {
             for (int letter = 0; letter < state.alphabet(); letter++) {
                 int there = replacements.distanceWith(changed, other, index, letter);

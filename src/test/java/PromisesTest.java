@@ -308,7 +308,7 @@ public final class PromisesTest {
         due("way: the corner goes before the deletion", "21", () -> way(with("ab", "c")));
         due("way: the corner goes before the insertion", "31", () -> way(with("a", "bc")));
         due("way: the corner goes first with the same letters", "20", () -> way(with("aa", "a")));
-        due("way: the deletion goes before the insertion", "3002", () -> way(with("bcd", "abc")));
+        due("way: the deletion goes before the insertion", "3002", () -> way(with("aba", "bab")));
         due("way of one text", "222", () -> way(with("abc", "")));
         due("way of the other text", "33", () -> way(with("", "ab")));
         BlockDistance x = with("abc", "adc");
