@@ -146,6 +146,35 @@ public final class BlockBoundariesTest {
                 x -> Scene.table(x));
     }
 
+    // "(Each of the differences is -1, 0 or 1 ..)": blocks with none but the least ones, none but the greatest ones
+    private static void promise21LeastAndGreatestDifferences() {
+        edge.answers("21: least differences, first letters", measured("aabbaaaa", "bbaaaabbaa", 2), "5 15 0", x -> Scene.table(x));
+        edge.answers("21: least differences, measured again", measured("aabbaaaa", "bbaaaabbaa", 2).then(x -> x.measure()),
+                "25 15 0", x -> Scene.table(x));
+        edge.answers("21: least differences by blocks of 1", measured("abaa", "baaba", 1).then(x -> x.measure()), "25 15 0",
+                x -> Scene.table(x));
+        edge.answers("21: greatest differences, last letters", measured("dddd", "dddd", 2), "1 3 0", x -> Scene.table(x));
+        edge.answers("21: greatest differences, measured again", measured("dddd", "dddd", 2).then(x -> x.measure()), "5 3 0",
+                x -> Scene.table(x));
+        edge.answers("21: greatest differences by blocks of 1", measured("dd", "dd", 1).then(x -> x.measure()), "5 3 0",
+                x -> Scene.table(x));
+    }
+
+    // "the key consists of the t letters of text 0 .., the t letters of text 1": no pair of letters is like another one
+    private static void promise21EachPairOfLetters() {
+        for (int size = 1; size <= 2; size++) {
+            int t = size;
+            Scene scene = Scene.NEW.then(x -> x.setBlock(t));
+            for (int pair = 0; pair < 16; pair++) {
+                String first = "abcd".substring(pair / 4, pair / 4 + 1).repeat(2 * t);
+                String second = "abcd".substring(pair % 4, pair % 4 + 1).repeat(2 * t);
+                scene = scene.withBuffer(first + "|" + second).then(x -> x.load()).then(x -> x.measure());
+                edge.answers("21: keys up to " + first + "|" + second, scene, (pair + 1) + " " + 3 * (pair + 1) + " 0",
+                        x -> Scene.table(x));
+            }
+        }
+    }
+
     // "Blocks at the lower and at the right end can have fewer pairs; a block with t times t pairs is whole."
     private static void promise22BlocksAtTheEnds() {
         for (int m = 0; m <= 20; m++) {
@@ -224,6 +253,8 @@ public final class BlockBoundariesTest {
         promise20CallsThatLeaveTheTable();
         promise21NumberOfKeys();
         promise21WhatIsInTheKey();
+        promise21LeastAndGreatestDifferences();
+        promise21EachPairOfLetters();
         promise22BlocksAtTheEnds();
         promise22NumberOfPairs();
         promise23Range();

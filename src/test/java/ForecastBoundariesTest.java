@@ -142,6 +142,10 @@ public final class ForecastBoundariesTest {
                 x -> x.bestReplacement(0));
         edge.answers("27: the least of several places", Scene.of("ab", "cd"), 2, x -> x.bestReplacement(0));
         edge.answers("27: the least of several letters", Scene.of("ccc", "aba"), 0, x -> x.bestReplacement(0));
+        edge.answers("27: of the farthest texts", Scene.of(TWENTY_A, TWENTY_B), "1 0", x -> x.bestReplacement(0) + " "
+                + x.bestReplacement(1));
+        edge.answers("27: of 20 letters and none", Scene.of(TWENTY_B, ""), 0, x -> x.bestReplacement(0));
+        edge.answers("27: of no letter and 20", Scene.of("", TWENTY_B), 0, x -> x.bestReplacement(1));
         edge.answers("27: of full texts", Scene.FULL, "0 1", x -> x.bestReplacement(0) + " " + x.bestReplacement(1));
     }
 
